@@ -22,6 +22,7 @@ public final class NightStalls {
     private static final int MOST_TICKS = 50;
     private static final int MOST_WATTS = 99;
     private static final int LINES = 3;
+    private static final int FIRST_LIMIT = 30;
     private static final int SMELLS = 4;
     private static final int DISHES = 6;
     private static final int NIGHTS = 100;
@@ -35,6 +36,8 @@ public final class NightStalls {
     private static final int APART = 0;
     private static final int SHARE = 1;
     private static final int RULES = 2;
+    private static final int FIRST_APART = 1;
+    private static final int FIRST_SHARE = 10;
     private static final int[] RULE_MOST = {3, 50};
 
     private static final int DISH = 0;
@@ -397,9 +400,14 @@ public final class NightStalls {
             places = 1;
             stalls = 0;
             placeFacts = new int[MOST_PLACES * PLACE_FACTS];
-            limits = new int[] {30, 30, 30};
+            limits = new int[LINES];
+            for (int line = 0; line < LINES; line++) {
+                limits[line] = FIRST_LIMIT;
+            }
             clashes = new int[SMELLS * SMELLS];
-            rules = new int[] {1, 10};
+            rules = new int[RULES];
+            rules[APART] = FIRST_APART;
+            rules[SHARE] = FIRST_SHARE;
             traits = new int[MOST_STALLS * TRAITS];
         }
 
@@ -647,12 +655,15 @@ public final class NightStalls {
         Night(Street street) {
             this.street = street;
             guests = new Guests();
-            stands = new int[] {NONE, NONE, NONE, NONE, NONE};
+            stands = new int[MOST_STALLS];
             sales = new int[MOST_STALLS];
             took = new int[MOST_STALLS];
             left = new int[MOST_STALLS];
             plugged = new int[LINES];
             tripped = new int[LINES];
+            for (int stall = 0; stall < MOST_STALLS; stall++) {
+                stands[stall] = NONE;
+            }
         }
 
         void clear() {

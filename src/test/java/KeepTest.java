@@ -130,6 +130,15 @@ public final class KeepTest {
         x.street(1);
         due.is("back() from another street", x.back(), 1);
         held(x);
+        x.shut();
+        x.change(0, 0, 5);
+        x.open(3);
+        for (int i = 0; i < 20; i++) {
+            x.guest(5, 1 + i);
+        }
+        x.go(30);
+        due.is("back() from another NIGHT", x.back(), 1);
+        held(x);
         due.is("go(2)", x.go(2), 1);
         due.is("back() while OPEN", x.back(), 1);
         held(x);

@@ -13,6 +13,7 @@ public final class LayoutTest {
         rentAheadOfNumber();
         numberAheadOfOrder();
         orderOfEquals();
+        eachCallForItself();
         whileOpen();
         due.end();
     }
@@ -165,6 +166,22 @@ public final class LayoutTest {
         laid(x, 0, 10, 1, 2);
         x.change(0, 5, 0);
         laid(x, 1, 5, NOTHING, 1);
+    }
+
+    private static void eachCallForItself() {
+        NightStalls x = streetOf(7, 6);
+        x.stall(0, 0, 0, 1, 1, 3);
+        x.stall(1, 0, 0, 1, 1, 9);
+        due.promise("9 layout");
+        due.is("layout(4, 1)", x.layout(4, 1), 0);
+        due.is("layout(3, 1)", x.layout(3, 1), 1);
+        x.place(0, 2, 1);
+        due.is("layout(3, 0)", x.layout(3, 0), 1);
+        due.is("layout(3, 1)", x.layout(3, 1), NOTHING);
+        x.street(1);
+        due.is("layout(3, 0)", x.layout(3, 0), 0);
+        due.promise("10 worth");
+        due.is("worth(3)", x.worth(3), 0);
     }
 
     private static void whileOpen() {

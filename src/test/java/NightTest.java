@@ -92,6 +92,8 @@ public final class NightTest {
         due.is("suspects(0, 0, 9)", x.suspects(0, 0, 9), 0);
         due.is("guestOf(0, 0)", x.guestOf(0, 0), NightStalls.NUMBER);
         due.is("guest(0, 5)", x.guest(0, 5), 0);
+        state(x, 0, WALKS);
+        due.is("guestOf(0, 1)", x.guestOf(0, 1), 0);
     }
 
     private static void shut() {

@@ -73,6 +73,12 @@ public final class StreetTest {
         due.is("place(2, 0, 0)", x.place(2, 0, 0), 0);
         due.is("place(3, 1, 0)", x.place(3, 1, 0), 0);
         due.is("place(4, 2, 0)", x.place(4, 2, 0), 0);
+        x.place(0, 0, 8);
+        x.place(0, 2, 1);
+        due.is("many(11)", x.many(11), 1);
+        due.is("street(5)", x.street(5), 5);
+        due.is("place(0, 0, 0)", x.place(0, 0, 0), 0);
+        due.is("place(0, 2, 0)", x.place(0, 2, 0), 0);
         x.place(4, 0, 7);
         due.is("street(2)", x.street(2), 2);
         due.is("street(5)", x.street(5), 5);
@@ -172,6 +178,12 @@ public final class StreetTest {
         due.is("clash(3, 0, false)", x.clash(3, 0, false), 1);
         due.is("clash(0, 3, false)", x.clash(0, 3, false), 0);
         due.is("clash(3, 3, false)", x.clash(3, 3, false), 1);
+        due.is("clash(3, 3, false)", x.clash(3, 3, false), 0);
+        x.clash(1, 2, true);
+        x.clash(1, 2, false);
+        due.is("clash(1, 2, true)", x.clash(1, 2, true), 1);
+        due.is("clash(2, 1, false)", x.clash(2, 1, false), 1);
+        due.is("clash(2, 1, true)", x.clash(2, 1, true), 1);
         due.is("clash(4, 0, true)", x.clash(4, 0, true), NightStalls.NUMBER);
         due.is("clash(0, 4, true)", x.clash(0, 4, true), NightStalls.NUMBER);
         due.is("clash(-1, 0, true)", x.clash(-1, 0, true), NightStalls.NUMBER);
