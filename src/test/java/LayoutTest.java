@@ -80,6 +80,17 @@ public final class LayoutTest {
         laid(x, 0, 0, NOTHING);
         x.place(1, 2, 0);
         laid(x, 0, 99, 1);
+        NightStalls y = streetOf(1, 2, 3, 4, 5, 6, 7, 8);
+        for (int stall = 0; stall < 5; stall++) {
+            y.stall(stall, 0, 0, 1, 1, 9);
+        }
+        for (int place = 0; place < 6; place++) {
+            y.place(place, 2, 1);
+        }
+        laid(y, 0, 15, 6, 7, NOTHING, NOTHING, NOTHING);
+        y.place(6, 2, 1);
+        y.place(7, 2, 1);
+        laid(y, 0, 0, NOTHING, NOTHING, NOTHING, NOTHING, NOTHING);
     }
 
     private static void apart() {
