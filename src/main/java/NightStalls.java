@@ -570,17 +570,21 @@ public final class NightStalls {
                 return;
             }
             if (street.mayStand(stall, night)) {
-                for (int place = 0; place < street.places; place++) {
-                    if (fits(stall, place)) {
-                        trial[stall] = place;
-                        closed[place] = 1;
-                        tryFrom(stall + 1, night, rent + street.rentOf(place), count + 1);
-                        closed[place] = 0;
-                    }
-                }
-                trial[stall] = NONE;
+                tryPlaces(stall, night, rent, count);
             }
             tryFrom(stall + 1, night, rent, count);
+        }
+
+        private void tryPlaces(int stall, int night, int rent, int count) {
+            for (int place = 0; place < street.places; place++) {
+                if (fits(stall, place)) {
+                    trial[stall] = place;
+                    closed[place] = 1;
+                    tryFrom(stall + 1, night, rent + street.rentOf(place), count + 1);
+                    closed[place] = 0;
+                }
+            }
+            trial[stall] = NONE;
         }
 
         /** What so many STALLS more could bring if nothing but free PLACES bound them. */
