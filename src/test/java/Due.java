@@ -9,6 +9,11 @@ final class Due {
         promise = name;
     }
 
+    /** The sentence of the document, word for word, that the checks which follow stand for. */
+    void says(String sentence) {
+        promise = "\"" + sentence + "\"";
+    }
+
     void is(String call, long got, long want) {
         calls++;
         if (got != want) {
@@ -19,6 +24,14 @@ final class Due {
 
     void holds(String what, boolean is) {
         is(what, is ? 1 : 0, 1);
+    }
+
+    void same(String what, String got, String want) {
+        calls++;
+        if (!got.equals(want)) {
+            wrong++;
+            System.out.println(promise + ": " + what + ":\n  is  " + got + "\n  due " + want);
+        }
     }
 
     void end() {
