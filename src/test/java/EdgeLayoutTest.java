@@ -24,6 +24,7 @@ public final class EdgeLayoutTest {
         limitNinetyNine();
         oneAboveTheLimitAlone();
         greatestRent();
+        greatestRentInTheMiddle();
         rentAheadOfMoreStalls();
         mostStalls();
         rentOfNothing();
@@ -386,6 +387,25 @@ public final class EdgeLayoutTest {
         laid(y, 0, 199, 0, 2, 4);
     }
 
+    /** The best is neither the first nor the last that is tried, with more PLACES than STALLS. */
+    private static void greatestRentInTheMiddle() {
+        due.says("the greatest sum of RENTS");
+        NightStalls x = streetOf(1, 9, 8, 0, 0);
+        x.stall(0, 0, 0, 1, 1, 0);
+        x.stall(1, 0, 0, 1, 1, 0);
+        laid(x, 0, 17, 1, 2);
+        NightStalls y = streetOf(2, 5, 40, 3, 60, 50, 1, 4);
+        for (int stall = 0; stall < 3; stall++) {
+            y.stall(stall, 0, 0, 1, 1, 0);
+        }
+        laid(y, 0, 150, 2, 4, 5);
+        y.rule(0, 3);
+        y.change(1, 0, 0);
+        laid(y, 0, 115, 1, 5, 4);
+        y.change(2, 0, 0);
+        laid(y, 0, 62, 0, 4, NOTHING);
+    }
+
     private static void rentAheadOfMoreStalls() {
         due.says("THE LAYOUT has the greatest sum of RENTS; of several");
         NightStalls x = streetOf(49, 99, 49);
@@ -409,6 +429,14 @@ public final class EdgeLayoutTest {
         y.stall(1, 0, 15, 1, 1, 0);
         y.stall(2, 0, 15, 1, 1, 0);
         laid(y, 0, 14, NOTHING, 0, 1);
+        // As much RENT with STALL 0 alone, which would be the lesser PLACE for the first one.
+        NightStalls z = streetOf(7, 0);
+        z.stall(0, 0, 30, 1, 1, 0);
+        z.stall(1, 0, 15, 1, 1, 0);
+        z.stall(2, 0, 15, 1, 1, 0);
+        laid(z, 0, 7, NOTHING, 0, 1);
+        z.change(2, 2, 16);
+        laid(z, 0, 7, 0, NOTHING, NOTHING);
     }
 
     private static void rentOfNothing() {

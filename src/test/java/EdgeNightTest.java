@@ -322,6 +322,10 @@ public final class EdgeNightTest {
         x.open(0);
         for (int guest = 0; guest < 20; guest++) {
             due.is("guest", x.guest(0, 1), guest);
+            int[] want = {0, 0, 1, 0, NONE};
+            for (int what = 0; what < want.length; what++) {
+                due.is("guestOf(" + guest + ", " + what + ")", x.guestOf(guest, what), want[what]);
+            }
         }
         due.is("guest", x.guest(0, 1), NightStalls.FULL);
     }
